@@ -36,19 +36,21 @@ public final class HoarseHill {
     private int latestFinding;
 
     public HoarseHill() {
-        rows = new Rows();
+        Rows allRows = new Rows();
+        Hill standing = new Hill();
+        // One spare hill serves every foretelling: no call leaves anything in it that a later one needs.
+        Hill told = new Hill();
+        rows = allRows;
         tape = new Tape();
-        now = new Hill();
+        now = standing;
         draft = new Hill();
         firstImage = new Hill();
         secondImage = new Hill();
         acts = new Acts();
-        // One spare hill serves every foretelling: no call leaves anything in it that a later one needs.
-        Hill told = new Hill();
-        foretelling = new Foretelling(now, told);
-        planning = new Planning(now, told);
-        matching = new Matching(now, told, rows);
-        asks = new Asks(now);
+        foretelling = new Foretelling(standing, told);
+        planning = new Planning(standing, told);
+        matching = new Matching(standing, told, allRows);
+        asks = new Asks(standing);
     }
 
     // ---- rows
@@ -139,14 +141,15 @@ public final class HoarseHill {
         if (!now.isSet(members)) {
             return BAD;
         }
-        if ((members & ~now.ableSet()) != 0) {
+        int able = now.ableSet();
+        if ((members & ~able) != 0) {
             return STATE;
         }
         if (now.day >= LAST_DAY) {
             return FULL;
         }
         acts.keep(now);
-        return now.passDay(members);
+        return now.passDay(members, able);
     }
 
     public int lozenge(int member) {
@@ -652,8 +655,8 @@ public final class HoarseHill {
         }
 
         /** The day goes by with those speaking: 1, if its motion is carried. */
-        int passDay(int set) {
-            int carries = isCarriedBy(set, ableSet()) ? 1 : 0;
+        int passDay(int set, int able) {
+            int carries = isCarriedBy(set, able) ? 1 : 0;
             for (int member = 0; member < members; member++) {
                 if ((set >> member & 1) != 0) {
                     breaths[member] -= costOf(member);
@@ -670,7 +673,8 @@ public final class HoarseHill {
         int passDays(int days) {
             int carriedThen = 0;
             for (int passed = 0; passed < days; passed++) {
-                carriedThen += passDay(ableSet());
+                int able = ableSet();
+                carriedThen += passDay(able, able);
             }
             return carriedThen;
         }
@@ -940,7 +944,7 @@ public final class HoarseHill {
             for (int passed = 0; passed < motions; passed++) {
                 int able = told.ableSet();
                 saidOn[passed] = told.weighsSet(able, able);
-                told.passDay(able);
+                told.passDay(able, able);
             }
             int best = 0;
             int most = -1;
@@ -1051,7 +1055,8 @@ public final class HoarseHill {
             int carriedThen = 0;
             for (int passed = 0; passed < days; passed++) {
                 draw = draw * DRAW_BY % DRAW_REST;
-                carriedThen += told.passDay(told.ableSet() & (int) (draw % SETS_MAX));
+                int able = told.ableSet();
+                carriedThen += told.passDay(able & (int) (draw % SETS_MAX), able);
             }
             return what == 0 ? carriedThen : breathOfAll();
         }
@@ -1104,7 +1109,7 @@ public final class HoarseHill {
             for (int set = 0; set < SETS_MAX; set++) {
                 if ((set & ~able) == 0) {
                     path[depth] = set;
-                    int carries = told.passDay(set);
+                    int carries = told.passDay(set, able);
                     tryDay(depth + 1, carriedSoFar + carries);
                     giveBreathsBack(depth);
                 }
@@ -1189,7 +1194,8 @@ public final class HoarseHill {
 
         private int comesAbout(int row, int i, int n) {
             for (int passed = 0; passed < n; passed++) {
-                if (told.passDay(told.ableSet()) != rows.item(row, i + passed)) {
+                int able = told.ableSet();
+                if (told.passDay(able, able) != rows.item(row, i + passed)) {
                     return 0;
                 }
             }

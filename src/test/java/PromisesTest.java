@@ -771,6 +771,8 @@ public final class PromisesTest {
         dueColds(3, 91, 100);
         read("h1;m15;p9,0;");
         dueColds(3, 3, 10);
+        read("h5;m15;p10,0;");
+        dueColds(3, 3, 10);
         read("h5;m60;p5,0;p5,0;p5,0;p5,0;");
         dueColds(3, 2401, 10000);
         read("h1;m0;");
