@@ -652,6 +652,8 @@ public final class PromisesTest {
         dueLozenges(NONE);
         read("h9;m40;p0,0;p4,0;p5,0;l0,0;");
         dueLozenges(4, 0, 1, 1, 2);
+        read("h5;m12;p3,0;p4,0;p4,0;p4,0;");
+        dueLozenges(1, 1, 0, 0, 0);
         read("h1;m0;");
         dueLozenges(0);
         x.needs(0, 1);
