@@ -1,14 +1,7 @@
 /** Each promise of the document by itself, with answers found by hand: ordinary ones, edges and refusals. */
-public final class PromisesTest {
-    private static final int NONE = -1000000, BAD = -1000001, STATE = -1000002, FULL = -1000003;
-    private static final int NULL = -1000011, PLACE = -1000012, KIND = -1000013, SIZE = -1000014, STORE = -1000015;
-    private static final int MIN = Integer.MIN_VALUE, MAX = Integer.MAX_VALUE;
-
+public final class PromisesTest extends Trial {
     /** A plain, a loud, a dry one, a priest; 3 motions. */
     private static final String FOUR = "h4;m20;m9;m33;p6,2;l12,3;d3,5;r9,1;";
-
-    private final Checks checks = new Checks();
-    private HoarseHill x;
 
     public static void main(String[] args) {
         PromisesTest test = new PromisesTest();
@@ -51,41 +44,6 @@ public final class PromisesTest {
         test.promise35();
         test.foretoldChangesNothing();
         test.checks.end();
-    }
-
-    private void due(String call, long got, long want) {
-        checks.due(call, got, want);
-    }
-
-    /** Tape and reading at once. */
-    private int read(String text) {
-        for (char letter : text.toCharArray()) {
-            x.feed(letter);
-        }
-        return x.hill();
-    }
-
-    private void fresh() {
-        x = new HoarseHill();
-    }
-
-    private void fresh(String text) {
-        fresh();
-        checks.holds("read: " + text, read(text) >= 0);
-    }
-
-    /** Items cannot be read; but a motion that is always, or never, carried tells whether one is 1, or 0. */
-    private void dueItems(String what, int row, int... items) {
-        for (int i = 0; i < items.length; i++) {
-            x.needs(0, items[i] == 1 ? 0 : 99);
-            due(what + ", item " + i, x.costs(row, i, 1), 1022);
-        }
-    }
-
-    private void setItems(int row, int... items) {
-        for (int i = 0; i < items.length; i++) {
-            due("set", x.set(row, i, items[i]), items[i]);
-        }
     }
 
     private void constants() {
@@ -261,12 +219,6 @@ public final class PromisesTest {
         due("a priest", x.kind(0), 5);
     }
 
-    private void dueFault(String text, int place, int number) {
-        due("read " + text, read(text), -1000100 - place);
-        due("fault of " + text, x.fault(), number);
-        due("the tape is empty", x.count(7), 0);
-    }
-
     private void promise7Faults() {
         fresh("h1;m5;p7,7;");
         x.cold(0, 3);
@@ -367,12 +319,6 @@ public final class PromisesTest {
         due("speak, FULL", x.speak(0), FULL);
         due("speak, BAD ahead of FULL", x.speak(1), BAD);
         due("day", x.count(3), 999);
-    }
-
-    private void dueBreaths(int... breaths) {
-        for (int m = 0; m < breaths.length; m++) {
-            due("breath of " + m, x.member(m, 0), breaths[m]);
-        }
     }
 
     private void promise10() {
