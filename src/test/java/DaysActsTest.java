@@ -17,6 +17,7 @@ public final class DaysActsTest extends Trial {
         test.aCold();
         test.needsAreOthers();
         test.eachActCanBeUndone();
+        test.actsOfEachMemberAndMotionCanBeUndone();
         test.actsThatChangeNothingAreActs();
         test.actsAre24AtMost();
         test.actsBehindSomeThatWereUndone();
@@ -286,6 +287,24 @@ public final class DaysActsTest extends Trial {
         x.lozenge(0);
         due("a lozenge that was cut", x.undo(), 1);
         dueBreaths(18, 5);
+    }
+
+    private void actsOfEachMemberAndMotionCanBeUndone() {
+        fresh("h1;m10;m20;m30;m40;p3,1;l5,2;d7,3;r9,4;");
+        int[] breaths = {3, 5, 7, 9};
+        for (int k = 0; k < 4; k++) {
+            x.needs(k, 99);
+            x.cold(k, 20);
+            x.lozenge(3 - k);
+            x.speak(1 << k);
+        }
+        for (int left = 15; left >= 0; left--) {
+            due("undo", x.undo(), left);
+        }
+        for (int k = 0; k < 4; k++) {
+            due("needs of " + k, x.motion(k), 10 * (k + 1));
+        }
+        dueBreaths(breaths);
     }
 
     private void actsThatChangeNothingAreActs() {

@@ -12,6 +12,7 @@ public final class ForetoldTest extends Trial {
         test.planFor1To4Days();
         test.planOfSeveralTheFirst();
         test.planFromNowOn();
+        test.planOfEachMember();
         test.agendaOfAllMotions();
         test.agendaFromThisDay();
         test.lozengesTheFewest();
@@ -171,6 +172,14 @@ public final class ForetoldTest extends Trial {
         duePlan(1, 0, 0, 1);
         x.speak(0);
         duePlan(1, 0, 1);
+    }
+
+    /** He rests on the second DAY and speaks anew; the others never can. */
+    private void planOfEachMember() {
+        for (int m = 0; m < 4; m++) {
+            fresh("h5;m15;" + "p0,0;".repeat(m) + "p5,5;" + "p0,0;".repeat(3 - m));
+            duePlan(2, 1 << m, 0, 1 << m, 0);
+        }
     }
 
     private void dueAgenda(int most, int... order) {

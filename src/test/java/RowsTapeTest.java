@@ -14,6 +14,8 @@ public final class RowsTapeTest extends Trial {
         test.rowsHave0To40Items();
         test.itemsAre0AtFirst();
         test.copiesAreAsTheyWereAhead();
+        test.copiesFromEachRowToEach();
+        test.copiesWithSumsThatWrapAround();
         test.theTapeHas100BytesAtMost();
         test.lettersSignsAndFiguresAlone();
         test.lettersEachByItself();
@@ -239,6 +241,31 @@ public final class RowsTapeTest extends Trial {
         x.row(2, 2, 0);
         due("none of none", x.copy(2, 0, 2, 0, 0), 0);
         due("one of none", x.copy(2, 0, 1, 0, 1), PLACE);
+    }
+
+    private void copiesFromEachRowToEach() {
+        int[] items = {0, 1, 1, 0, 1};
+        for (int lane = 0; lane <= 2; lane++) {
+            for (int a = 0; a < 8; a++) {
+                for (int b = 0; b < 8; b++) {
+                    if (a != b) {
+                        fresh("h1;m0;");
+                        x.row(a, lane, 5);
+                        x.row(b, lane, 4);
+                        setItems(a, items);
+                        due("copy " + a + " to " + b, x.copy(a, 1, b, 0, 4), 4);
+                        dueItems("copied " + a + " to " + b, b, 1, 1, 0, 1);
+                        dueItems("what was copied stays", a, items);
+                    }
+                }
+            }
+        }
+    }
+
+    private void copiesWithSumsThatWrapAround() {
+        fresh("h1;m0;");
+        x.row(0, 2, 40);
+        x.row(1, 2, 40);
         int[][] wraps = {{MAX, 0, 1}, {1, 0, MAX}, {2, 0, MAX - 1}, {MAX, 0, MAX}, {0, MAX, 1}, {0, 1, MAX},
             {0, MAX - 1, 2}, {MAX - 1, MAX - 1, 2}, {MIN, 0, MIN}, {MIN, MIN, MAX}, {0, MIN, MIN}};
         for (int[] w : wraps) {
