@@ -26,6 +26,7 @@ public final class LanguageTest {
         face();
         inside();
         words(code);
+        library(code);
         methods(code);
         checks.end();
     }
@@ -107,6 +108,28 @@ public final class LanguageTest {
             if (code.charAt(i) > 126) {
                 checks.holds("letters 1 to 127 alone, at " + i, false);
             }
+        }
+    }
+
+    /** Of the library only these are used, and nothing is made but own classes and rows of ints. */
+    private static void library(String code) {
+        Set<String> own = new HashSet<>();
+        for (Class<?> type : HoarseHill.class.getDeclaredClasses()) {
+            own.add(type.getSimpleName());
+        }
+        Matcher used = Pattern.compile("\\b([A-Z]\\w*)\\.(\\w+)").matcher(code);
+        while (used.find()) {
+            checks.holds(used.group() + " may be used", own.contains(used.group(1))
+                || Set.of("Math.min", "Math.max", "Integer.bitCount", "System.arraycopy").contains(used.group()));
+        }
+        Matcher made = Pattern.compile("\\bnew (\\w+)(\\W)").matcher(code);
+        while (made.find()) {
+            checks.holds(made.group() + " may be made", made.group(2).equals("[") ? made.group(1).equals("int")
+                : own.contains(made.group(1)));
+        }
+        Matcher cast = Pattern.compile("\\((\\w+)\\) ?[\\w(]").matcher(code.replaceAll("\\b(if|for|switch) \\(.*", ""));
+        while (cast.find()) {
+            checks.holds("a cast among numbers: " + cast.group(), Set.of("byte", "short", "int").contains(cast.group(1)));
         }
     }
 
